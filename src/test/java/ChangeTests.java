@@ -16,6 +16,8 @@ public final class ChangeTests {
         undo();
         undoOfEach();
         undoOfEachThatChangesNothing();
+        undoOfAllThatIsTold();
+        loadBehindAsks();
         undoCount();
         Due.finish();
     }
@@ -89,6 +91,33 @@ public final class ChangeTests {
         for (int what = 3; what <= 7; what++) {
             Due.is("new ball in an old number, " + what, y.ball(1, what), 0);
         }
+        LineBalls z = busy();
+        z.removeBall(2);
+        z.addBall(29, 1, 1);
+        for (int what = 3; what <= 7; what++) {
+            Due.is("new ball in a busy number, " + what, z.ball(2, what), 0);
+        }
+    }
+
+    /** Behind it the last ball has saved, gone, hit, bounced and waited. */
+    private static LineBalls busy() {
+        LineBalls x = Due.loaded("box 30;post 20 steal 0;ball a at 1 speed 0 weight 1;ball b at 9 speed 0 weight 1;"
+                + "ball c at 7 speed 60 weight 1;");
+        // It goes to 8 and hits b; it bounces at the post; it has saved more than b, and waits behind it.
+        x.pulse(2);
+        x.stop();
+        x.place(2, 19);
+        x.kick(2, 60);
+        x.pulse(1);
+        x.place(2, 10);
+        x.kick(2, 15);
+        x.pulse(1);
+        x.kick(1, -45);
+        x.pulse(1);
+        for (int what = 3; what <= 7; what++) {
+            Due.is("busy, " + what, x.ball(2, what) > 0 ? 1 : 0, 1);
+        }
+        return x;
     }
 
     private static void addBallRefused() {
@@ -340,6 +369,48 @@ public final class ChangeTests {
         undone("stop at rest", x, before, 2);
         x.place(0, 2);
         undone("place to its own cell", x, before, 2);
+    }
+
+    /** More than a whole log is written over, and each sum, count and name changes. */
+    private static void undoOfAllThatIsTold() {
+        LineBalls x = busy();
+        x.setSteal(0, 3);
+        x.addBall(19, 60, 3);
+        x.pulse(50);
+        String before = Due.state(x);
+        x.keep(0);
+        x.tick(7);
+        x.kick(0, 1);
+        x.removeBall(1);
+        String later = Due.state(x);
+        Due.load(x, Texts.TWO);
+        x.tick(3);
+        x.undo();
+        x.undo();
+        Due.is("behind undo of load", Due.state(x), later);
+        x.undo();
+        x.undo();
+        x.undo();
+        Due.is("behind undo of all", Due.state(x), before);
+        x.tick(9);
+        x.restore(0);
+        Due.is("behind restore", Due.state(x), before);
+    }
+
+    /** What was tried ahead of it leaves nothing in what a text makes. */
+    private static void loadBehindAsks() {
+        LineBalls x = busy();
+        x.addBall(19, 60, 3);
+        x.pulse(50);
+        x.hitsIn(50);
+        Due.load(x, Texts.TWO);
+        Due.is("load behind asks", Due.state(x), Due.state(Due.loaded(Texts.TWO)));
+        x.hitsIn(50);
+        Due.load(x, "box 30;post 2 steal 1;");
+        x.addBall(0, 0, 1);
+        LineBalls y = Due.loaded("box 30;post 2 steal 1;");
+        y.addBall(0, 0, 1);
+        Due.is("another one behind asks", Due.state(x), Due.state(y));
     }
 
     // 51

@@ -232,6 +232,14 @@ public final class ForesightTests {
         Due.is("calm in 50", Due.loaded("box 60 steal 0 100;ball a at 10 speed 1 weight 1;").calmIn(), 50);
         Due.is("calm in 51", Due.loaded("box 60 steal 0 100;ball a at 9 speed 1 weight 1;").calmIn(), -1);
         Due.is("calm in 2", Due.loaded("box 60 steal 0 100;ball a at 58 speed 1 weight 1;ball b at 10 speed 0 weight 9;").calmIn(), 2);
+        LineBalls x = Due.loaded("box 60 steal 0 100;ball a at 40 speed 1 weight 1;");
+        Due.is("calm in 20", x.calmIn(), 20);
+        x.pulse(59);
+        Due.is("calm in 20 behind 59 pulses", x.calmIn(), 20);
+        x.pulse(1);
+        Due.is("calm in 19", x.calmIn(), 19);
+        x.place(0, 57);
+        Due.is("calm in 3", x.calmIn(), 3);
         Due.is("never calm", Due.loaded(Texts.TWO.replace("50 0", "0 0")).calmIn(), -1);
     }
 

@@ -260,6 +260,8 @@ public final class ParseTests {
         Due.is("right wall", x.wall(true, 0), 100);
         Due.is("post", x.post(0, 1), 100);
         Due.is("weight", x.ball(0, 2), 20);
+        LineBalls y = Due.loaded("box 10;");
+        Due.is("0 without steal", y.wall(false, 0) * 1000 + y.wall(true, 0), 0);
         Due.is("200 cells", Due.loaded("box 200;").property(0), 200);
         Due.is("cell 199", Due.loaded("box 200;ball a at 199 speed 1 weight 1;").at(199), 0);
         Due.is("close tokens", Due.balls(Due.loaded("box10steal1 2;ball a at0speed-60weight20;")), "0@0:-60");

@@ -12,6 +12,7 @@ public final class StateTests {
         neighbour();
         room();
         hits();
+        hitsOfRenumberedBalls();
         logged();
         loggedBehindRemovals();
         account();
@@ -21,6 +22,7 @@ public final class StateTests {
         meanSpeed();
         share();
         middle();
+        fullLine();
         Due.finish();
     }
 
@@ -226,6 +228,34 @@ public final class StateTests {
         Due.is("nor has another one", x.hits(2, 1) + x.hits(2, 0) + x.hits(1, 2) + x.hits(0, 2), 0);
     }
 
+    private static void hitsOfRenumberedBalls() {
+        // 1 with 2 alone.
+        LineBalls x = Due.loaded("box 30;ball a at 20 speed 0 weight 1;ball b at 4 speed 60 weight 1;"
+                + "ball c at 5 speed 0 weight 1;ball d at 29 speed 0 weight 1;");
+        x.pulse(1);
+        x.removeBall(0);
+        int[][] due = {{0, 1, 0}, {1, 0, 0}, {0, 0, 0}};
+        for (int a = 0; a < 3; a++) {
+            for (int b = 0; b < 3; b++) {
+                Due.is("hits of " + a + " with " + b + " behind removeBall", x.hits(a, b), due[a][b]);
+            }
+        }
+        x.removeBall(1);
+        Due.is("its hits are gone with it", x.hits(0, 1) + x.hits(1, 0), 0);
+        LineBalls y = new LineBalls();
+        for (int i = 0; i < 10; i++) {
+            y.addBall(i, i == 8 ? 60 : 0, 1);
+        }
+        y.pulse(1);
+        Due.is("hits of 8 and 9", y.hits(8, 9), 1);
+        y.removeBall(0);
+        y.addBall(0, 0, 1);
+        Due.is("they are 7 and 8", y.hits(7, 8), 1);
+        for (int i = 0; i < 10; i++) {
+            Due.is("hits of the new 9 with " + i, y.hits(9, i) + y.hits(i, 9), 0);
+        }
+    }
+
     // 17
     private static void logged() {
         LineBalls x = Due.loaded(Texts.TWO);
@@ -278,6 +308,9 @@ public final class StateTests {
         }
         Due.refuses("account(-1)", x, Texts.ARGUMENT, () -> x.account(-1));
         Due.refuses("account(5)", x, Texts.ARGUMENT, () -> x.account(5));
+        LineBalls z = Due.loaded(Texts.ROW);
+        z.pulse(1);
+        Due.is("traded in two hits", z.account(3), 240);
         LineBalls y = Due.loaded("box 10 steal 0 50;ball a at 9 speed 60 weight 3;");
         y.pulse(1);
         Due.is("what the right wall got", y.account(2), 270);
@@ -327,6 +360,9 @@ public final class StateTests {
         x.addBall(8, 1, 1);
         Due.is("going right", x.going(true), 12);
         Due.is("going left", x.going(false), 2);
+        x.kick(0, -1);
+        Due.is("0 going left", x.going(false), 3);
+        Due.is("0 not going right", x.going(true), 12);
     }
 
     // 35
@@ -361,5 +397,33 @@ public final class StateTests {
         x.addBall(1, 9, 2);
         Due.is("middle of two", x.middle(), 2.0 / 3.0);
         Due.is("middle of TWO", Due.loaded(Texts.TWO).middle(), 4.0);
+    }
+
+    /** Ten balls, 0 in the highest cell, each as fast as its number and 1. */
+    private static void fullLine() {
+        LineBalls x = new LineBalls();
+        for (int i = 0; i < 10; i++) {
+            x.addBall(9 - i, i + 1, 1);
+        }
+        Due.is("line", Due.line(x), "9876543210");
+        Due.is("placed 9", x.placed(9), 0);
+        Due.is("fastest", x.fastest(), 9);
+        Due.is("going right", x.going(true), 1023);
+        Due.is("going left", x.going(false), 0);
+        Due.is("meanSpeed", x.meanSpeed(), 5.5);
+        Due.is("middle", x.middle(), 4.5);
+        Due.is("energy", x.account(1), 385);
+        Due.is("push", x.account(0), 55);
+        Due.is("weights", x.property(6), 10);
+        Due.is("neighbour", x.neighbour(9, true), 8);
+        Due.is("no room", x.room(9, true), 0);
+        // 9 is due in the sixth pulse, when 8 has saved 54 and is slower.
+        Due.is("hitIn", x.hitIn(), 6);
+        Due.is("a hit", x.pulse(6), 1);
+        Due.is("its log", Due.log(x), "9x8/1");
+        Due.is("stop", x.stop(), 10);
+        Due.is("calm", x.calmIn(), 0);
+        x.removeBall(9);
+        Due.is("line behind removeBall", Due.line(x), ".876543210");
     }
 }
