@@ -4,6 +4,7 @@ public final class PulseTests {
         saving();
         bouncing();
         bouncingBothWays();
+        tenBalls();
         orderOfTurns();
         struckBalls();
         bounceAheadOfHit();
@@ -54,6 +55,30 @@ public final class PulseTests {
         z.pulse(60);
         Due.is("rounded down to nothing", Due.balls(z), "0@0:1");
         Due.is("log of nothing", Due.log(z), "0|/0");
+        LineBalls u = Due.loaded("box 10 steal 0 99;ball a at 9 speed 1 weight 1;");
+        u.pulse(60);
+        Due.is("rounded down to nothing on the right", Due.balls(u), "0@9:-1");
+    }
+
+    private static void tenBalls() {
+        LineBalls x = Due.loaded("box 20;");
+        for (int i = 0; i < 10; i++) {
+            x.addBall(i, 60, 1);
+        }
+        x.pulse(10);
+        Due.is("all go to the right", Due.line(x), "..........0123456789");
+        x.pulse(1);
+        // 9 bounces; then 8 hits it, 7 hits 8, and so on: each takes over what the next one had.
+        Due.is("one behind the other", x.count(0) * 10 + x.count(1), 91);
+        Due.is("speeds", Due.balls(x), "0@10:-60 1@11:60 2@12:60 3@13:60 4@14:60 5@15:60 6@16:60 7@17:60 8@18:60 9@19:60");
+        for (int i = 0; i < 10; i++) {
+            x.place(i, i);
+            x.kick(i, -60);
+            x.kick(i, -60);
+        }
+        x.pulse(1);
+        Due.is("and so to the left", Due.balls(x),
+                "0@0:-60 1@1:-60 2@2:-60 3@3:-60 4@4:-60 5@5:-60 6@6:-60 7@7:-60 8@8:-60 9@9:60");
     }
 
     private static void bouncingBothWays() {
