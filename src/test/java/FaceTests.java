@@ -28,6 +28,7 @@ public final class FaceTests {
         words(source);
         catches(source);
         methodLengths(source);
+        promisesTested();
         Due.finish();
     }
 
@@ -136,6 +137,29 @@ public final class FaceTests {
         }
         Due.is("what is thrown", thrown.toString(), "[IllegalArgumentException, IllegalStateException, "
                 + "IndexOutOfBoundsException, NoSuchElementException]");
+    }
+
+    /** Each promise and each section of the terms is named by a check of its boundaries. */
+    private static void promisesTested() throws Exception {
+        StringBuilder edges = new StringBuilder();
+        for (String name : new String[] {"Input", "State", "Foresight", "Pulse", "Change", "Output"}) {
+            edges.append(Files.readString(Path.of("src/test/java/Edge" + name + "Tests.java")));
+        }
+        Matcher m = Pattern.compile("(?m)^## Promise (\\d+):").matcher(Files.readString(Path.of(DOCUMENT)));
+        int promises = 0;
+        while (m.find()) {
+            promises++;
+            namedByACheck(edges.toString(), "P" + m.group(1));
+        }
+        Due.is("promises of the document", promises, 55);
+        for (String section : new String[] {"T1", "T2", "T3", "T4", "TE"}) {
+            namedByACheck(edges.toString(), section);
+        }
+    }
+
+    private static void namedByACheck(String tests, String name) {
+        boolean named = Pattern.compile("\"[^\"\n]*\\b" + name + "\\b").matcher(tests).find();
+        Due.is("a check of the boundaries of " + name, named ? 1 : 0, 1);
     }
 
     /** Rule 11: short methods, by the lines between a head and the brace that closes it. */
