@@ -25,6 +25,7 @@ public final class EdgeStateTests {
         promise35();
         promise36();
         promise37();
+        asksChangeNothing();
         Due.finish();
     }
 
@@ -527,6 +528,28 @@ public final class EdgeStateTests {
         Due.is("P37 without balls any more", x.middle(), -1.0);
         for (Edge.Maker maker : ALL) {
             Edge.asks("P37 middle()", maker, y -> y.middle());
+        }
+    }
+
+    private static void asksChangeNothing() {
+        for (Edge.Maker maker : ALL) {
+            for (int i = 0; i <= 6; i++) {
+                int what = i;
+                Edge.changesNothing("P8 property(" + what + ")", maker, x -> x.property(what));
+                Edge.changesNothing("P9 ball(0, " + what + ")", maker, x -> x.ball(0, what));
+                Edge.changesNothing("P11 post(0, " + what + ")", maker, x -> x.post(0, what));
+                Edge.changesNothing("P12 wall(true, " + what + ")", maker, x -> x.wall(true, what));
+                Edge.changesNothing("P17 logged(0, " + what + ")", maker, x -> x.logged(0, what));
+                Edge.changesNothing("P18 account(" + what + ")", maker, x -> x.account(what));
+                Edge.changesNothing("P19 count(" + what + ")", maker, x -> x.count(what));
+            }
+            Edge.changesNothing("P5 errorCode()", maker, x -> x.errorCode());
+            Edge.changesNothing("P6 errorPosition()", maker, x -> x.errorPosition());
+            Edge.changesNothing("P10 at(5)", maker, x -> x.at(5));
+            Edge.changesNothing("P13 placed(0)", maker, x -> x.placed(0));
+            Edge.changesNothing("P14 neighbour(0, true)", maker, x -> x.neighbour(0, true));
+            Edge.changesNothing("P15 room(0, true)", maker, x -> x.room(0, true));
+            Edge.changesNothing("P16 hits(0, 1)", maker, x -> x.hits(0, 1));
         }
     }
 }
